@@ -140,6 +140,7 @@ public final class HearerTest {
         }
         x.set(1, 0);
         span(x, 15, 63, 50, 50);
+        span(x, 15, 0, 50, 50);
         x.set(1, 99);
         span(x, 15, 28, 1, 99);
         x.set(1, 3);
@@ -196,6 +197,8 @@ public final class HearerTest {
         DUE.is("all are alike", x.drum(), 0);
         x.hear(0, 0, 180);
         DUE.is("farther away", x.drum(), 5);
+        x.set(1, 99);
+        DUE.is("all but one are alike", x.drum(), 1);
         x.set(1, 3);
         DUE.is("farthest away", x.drum(), 63);
         x.hear(1, 63, 180);

@@ -84,6 +84,9 @@ public final class IceTest {
         x.make(9, 0, 7);
         DUE.is("bears, cut", x.told(9, 5), 4);
         DUE.is("pitch, cut", x.told(9, 6), 1285);
+        x.make(9, 0, 1);
+        DUE.is("the highest pitch", x.told(9, 6), 9000);
+        x.make(9, 0, 7);
         x.make(9, 4, 3);
         DUE.is("bears by planks", x.told(9, 5), 184);
         x.make(9, 0, 0);
@@ -98,6 +101,7 @@ public final class IceTest {
     private static void days() {
         IceByEar x = new IceByEar();
         DUE.is("one day of 9", x.days(9, 1), 64 * 39);
+        DUE.is("a day leaves the kind", x.told(0, 1), 0);
         DUE.is("seven days more: 99 at most", x.days(9, 7), 64 * 99);
         x.make(0, 3, 1);
         DUE.is("a spring, warm", x.days(0, 1), 64 * 99 - 3);
@@ -176,6 +180,7 @@ public final class IceTest {
         x.hear(0, 0, 100);
         x.make(0, 0, 0);
         x.make(63, 0, 0);
+        x.make(62, 0, 1);
         x.make(4, 4, 3);
         x.make(5, 4, 2);
         DUE.is("sleighs", x.count(0), 2);

@@ -51,7 +51,7 @@ public final class ImageTest {
         x.back(k);
         x.deaf();
         for (int i = 0; i < k; i++) {
-            x.hear(k, 20 + i, 9000 / (40 + k));
+            x.hear(k, 20 * k + i, 9000 / (40 + k));
         }
         x.slip(k, k);
         x.slip(0, 10 * k);
@@ -71,7 +71,9 @@ public final class ImageTest {
         DUE.is("need of the second", x.need(1, 0), 10 * k * (10 + k) / 10 + 10 * k * k / 10);
         DUE.is("places", x.count(1), 4 - k);
         DUE.is("heard", x.count(2), k);
-        DUE.is("span", x.span(15, 20, 0), 40 + k);
+        DUE.is("span", x.span(15, 20 * k, 0), 40 + k);
+        DUE.is("span by who heard", x.span(1 << k, 20 * k, 0), 40 + k);
+        DUE.is("span by the others", x.span(15 - (1 << k), 20 * k, 1), 99);
         DUE.is("slip", x.slip(0, 10 * k), 10 * k);
         DUE.is("slip of another", x.slip(2, 0), 0);
         DUE.is("the last place", x.step(8 * k + 4 - k), 5 - k);

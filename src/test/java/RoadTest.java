@@ -116,6 +116,7 @@ public final class RoadTest {
         Due.ice(x, "90909090/90909090/90909090/90909090/90909090/90909090/90909090/99909990");
         DUE.is("the fewest, however long", x.planks(0, 7, 60, 2), 2);
         DUE.is("three each", x.planks(0, 7, 99, 8), 2);
+        DUE.is("180 on water and no more", x.planks(0, 7, 95, 9), 2);
         DUE.is("not by three each", x.planks(0, 7, 99, 9), NONE);
         DUE.is("where none are needed", x.planks(0, 2, 99, 9), 0);
         DUE.is("nothing is laid", x.count(4), 0);

@@ -147,6 +147,7 @@ public final class SheetTest {
         x.sheet(3, 0, 7);
         x.make(8, 0, 0);
         x.make(15, 0, 0);
+        x.make(12, 0, 1);
         DUE.is("all of the row 0", x.film(0, 0, 0), 8);
         DUE.is("some of the row 1", x.film(1, 0, 2), 6);
         DUE.is("the last row", x.film(7, 0, 1), 8);

@@ -164,11 +164,21 @@ public final class SleighTest {
         x.home();
         x.sleigh(40, 1, 0);
         x.sleigh(60, 1, 9);
-        x.make(0, 4, 3);
+        x.make(0, 4, 2);
         x.make(1, 0, 20);
         x.make(0, 0, 10);
-        DUE.is("of one minute the least number", x.breaks(0), 0);
+        DUE.is("at a place farther on", x.breaks(0), 0);
         DUE.is("at its place", x.breaks(1), 1);
+        x.home();
+        x.sleigh(40, 1, 0);
+        x.sleigh(99, 9, 9);
+        DUE.is("of one minute the least number", x.breaks(0), 0);
+        DUE.is("in that minute", x.breaks(2), 9);
+        x.home();
+        x.sleigh(99, 9, 9);
+        x.sleigh(40, 1, 0);
+        DUE.is("of one minute the least number again", x.breaks(0), 0);
+        DUE.is("on its square", x.breaks(1), 0);
         x.home();
         x.sleigh(60, 1, 9);
         x.sleigh(40, 1, 0);
@@ -210,7 +220,6 @@ public final class SleighTest {
         IceByEar z = new IceByEar();
         Due.ice(z, "11111111/99999991/11111111/19999999/11111111/99999991/11111111/19999999");
         DUE.is("a long winding crack", Long.bitCount(z.cracks(0)), 36);
-        z.image();
         DUE.is("cracks changes nothing", z.count(3), 0);
     }
 
@@ -222,12 +231,14 @@ public final class SleighTest {
         x.make(1, 0, 5);
         x.make(2, 0, 0);
         x.make(3, 0, 5);
+        x.make(0, 1, 2);
         x.make(1, 1, 3);
         x.make(1, 2, 2);
         x.make(1, 4, 1);
         DUE.is("how many squares, water too", x.crack(0), 4);
         DUE.is("all water", x.count(3), 4);
         DUE.is("the start, too", x.told(0, 0), 0);
+        DUE.is("the start's kind stays", x.told(0, 1), 2);
         DUE.is("the kind stays", x.told(1, 1), 3);
         DUE.is("the snow stays", x.told(1, 2), 2);
         DUE.is("the planks stay", x.told(1, 4), 1);
