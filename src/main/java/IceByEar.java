@@ -241,7 +241,6 @@ public final class IceByEar {
         if (!isRoadAsked(from, to, load, pace)) {
             return BAD;
         }
-        roads.weigh(now.ice);
         return roads.fewestLaid(now.ice, from, to, weightAlone(load, pace));
     }
 
@@ -694,11 +693,12 @@ public final class IceByEar {
             return sums[from] == CLOSED ? NONE : sums[from];
         }
 
+        /** Planks laid already come off everywhere, also where a square bears the weight by them alone. */
         int fewestLaid(Ice ice, int from, int to, int weight) {
             for (int square = 0; square < SQUARES; square++) {
-                int laid = ice.bareBearing(square, ice.trait(square, THICKNESS)) + PLANKS_MOST * PLANK_BEARS;
-                int cost = laid >= weight ? 1 : CLOSED;
-                costs[square] = bears[square] >= weight ? 0 : cost;
+                int bare = ice.bareBearing(square, ice.trait(square, THICKNESS));
+                int cost = bare + PLANKS_MOST * PLANK_BEARS >= weight ? 1 : CLOSED;
+                costs[square] = bare >= weight ? 0 : cost;
             }
             spread(from);
             return sums[to] == CLOSED ? NONE : sums[to];

@@ -452,7 +452,8 @@ final class PlainIce {
         int need = load * (10 + pace) / 10, never = 1000;
         int[] cost = new int[64], sum = new int[64];
         for (int a = 0; a < 64; a++) {
-            cost[a] = bears(a) >= need ? 0 : bears(a, st.squares[a][0], 3) >= need ? 1 : never;
+            int thickness = st.squares[a][0];
+            cost[a] = bears(a, thickness, 0) >= need ? 0 : bears(a, thickness, 3) >= need ? 1 : never;
         }
         Arrays.fill(sum, never);
         sum[from] = cost[from];

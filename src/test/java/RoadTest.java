@@ -129,8 +129,19 @@ public final class RoadTest {
             x.make(row * 8 + 3, 0, 0);
         }
         x.make(1, 4, 2);
-        DUE.is("two of them bear it", x.planks(0, 2, 99, 2), 0);
+        DUE.is("two of them bear it, but come off", x.planks(0, 2, 99, 2), 1);
         DUE.is("two of them do not, three do", x.planks(0, 2, 99, 5), 1);
-        DUE.is("those laid already come off", x.planks(0, 2, 99, 9), NONE);
+        DUE.is("three, not five", x.planks(0, 2, 99, 9), NONE);
+        x.make(1, 4, 3);
+        DUE.is("three come off and are laid again", x.planks(0, 2, 1, 1), 1);
+        x.make(0, 4, 3);
+        x.make(2, 4, 3);
+        DUE.is("ice that bears it bare needs none", x.planks(0, 2, 1, 1), 1);
+        x.make(0, 0, 0);
+        x.make(2, 0, 0);
+        DUE.is("the first and the last are of the road", x.planks(0, 2, 1, 1), 3);
+        DUE.is("from there to there", x.planks(0, 0, 1, 1), 1);
+        DUE.is("a road counts them as they are", x.road(0, 2, 99, 8, -1), 3);
+        DUE.is("asking takes none off", x.count(4), 9);
     }
 }
