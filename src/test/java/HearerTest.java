@@ -110,10 +110,10 @@ public final class HearerTest {
     /** Every pitch and some slips, against thickness by thickness. */
     private static void spanOfAllPitches() {
         for (int kind = 0; kind <= 4; kind++) {
-            IceByEar x = new IceByEar();
-            x.set(1, 99);
-            x.make(0, 1, kind);
             for (int pitch = 90; pitch <= 9999; pitch += pitch < 400 ? 1 : 37) {
+                IceByEar x = new IceByEar();
+                x.set(1, 99);
+                x.make(0, 1, kind);
                 for (int slip = 0; slip <= 99; slip += 33) {
                     x.deaf();
                     x.slip(0, slip);

@@ -2,9 +2,14 @@ import java.util.ArrayList;
 import java.util.List;
 import java.util.Random;
 
-/** Long runs of drawn calls (always the same ones), each answered by IceByEar as by PlainIce. */
+/**
+ * Runs of drawn calls (always the same ones), each answered by IceByEar as by PlainIce: from an object's first call to its
+ * 512th, and no more, as what later calls answer is free.
+ */
 public final class ModelTest {
     private static final int RUNS = 400, CALLS = 512;
+    /** As many calls as it takes to type and read the longest text. */
+    private static final int CALLS_OF_A_TEXT = 20;
     private static final Due DUE = new Due("ModelTest");
 
     private final Random drawn;
@@ -25,13 +30,13 @@ public final class ModelTest {
 
     private void run() {
         List<String> told = new ArrayList<>();
-        for (int i = 0; i < CALLS; i++) {
+        while (told.size() < CALLS && !DUE.isWrong()) {
             call(told);
-            if (DUE.isWrong()) {
-                System.out.println("behind " + told);
-                return;
-            }
         }
+        if (DUE.isWrong()) {
+            System.out.println("behind " + told);
+        }
+        DUE.is("calls of a run", told.size(), CALLS);
     }
 
     private int in(int least, int most) {
@@ -159,14 +164,16 @@ public final class ModelTest {
                 due(told, "set(" + b + ", " + c + ")", x.set(b, c), plain.set(b, c));
                 break;
             case 12:
-                if (drawn.nextInt(3) == 0) {
+                if (drawn.nextInt(3) == 0 && told.size() + CALLS_OF_A_TEXT <= CALLS) {
                     type(told, iceText());
                     due(told, "ice()", x.ice(), plain.ice());
                 }
                 break;
             case 13: case 14:
-                type(told, sleighText());
-                due(told, "sleighs()", x.sleighs(), plain.sleighs());
+                if (told.size() + CALLS_OF_A_TEXT <= CALLS) {
+                    type(told, sleighText());
+                    due(told, "sleighs()", x.sleighs(), plain.sleighs());
+                }
                 break;
             case 15:
                 long w = drawn.nextLong() & 0x7F7F7F7F7F7F7F7FL | 0x2020202020202020L;

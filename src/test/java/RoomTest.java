@@ -2,28 +2,35 @@ import java.lang.management.ManagementFactory;
 
 /** No call makes an object, and a new object is small: many runs find room together. */
 public final class RoomTest {
-    private static final int ROUNDS = 2000;
+    private static final int OBJECTS = 200, ROUNDS = 12;
     private static final Due DUE = new Due("RoomTest");
     private static final com.sun.management.ThreadMXBean ROOM =
         (com.sun.management.ThreadMXBean) ManagementFactory.getThreadMXBean();
     private static long sum = 0;
 
     public static void main(String[] args) {
-        IceByEar x = new IceByEar();
-        callAll(x);
+        callAll(new IceByEar());
         made();
-        long before = made();
-        for (int i = 0; i < ROUNDS; i++) {
-            callAll(x);
+        long calls = 0;
+        for (int i = 0; i < OBJECTS; i++) {
+            calls += madeByCalls(new IceByEar());
         }
-        long calls = made() - before;
-        DUE.holds("calls made " + calls + " bytes in " + ROUNDS + " rounds", calls < ROUNDS);
-        before = made();
+        DUE.holds("calls made " + calls + " bytes on " + OBJECTS + " objects", calls < OBJECTS * ROUNDS);
+        long before = made();
         sum += new IceByEar().count(0);
         long one = made() - before;
         DUE.holds("a new object has " + one + " bytes", one < 16000);
         DUE.holds("answers were used", sum != 0);
         DUE.end();
+    }
+
+    /** No more rounds than an object has calls. */
+    private static long madeByCalls(IceByEar x) {
+        long before = made();
+        for (int i = 0; i < ROUNDS; i++) {
+            callAll(x);
+        }
+        return made() - before;
     }
 
     private static long made() {
