@@ -292,6 +292,19 @@ public final class EdgeHearerTest {
         }
     }
 
+    static void p24EachEndIsNarrowedByItself() {
+        IceByEar x = new IceByEar();
+        x.set(1, 25);
+        x.hear(0, 9, 450);
+        x.hear(1, 11, 150);
+        span(x, 9, 20, 20);
+        span(x, 11, 60, 60);
+        span(x, 10, 35, 45);
+        span(x, 8, 1, 45);
+        span(x, 12, 35, 85);
+        span(x, 13, 10, 99);
+    }
+
     static void p24JustSteepFitsOneMoreDoesNot() {
         IceByEar x = new IceByEar();
         x.hear(0, 0, 900);
@@ -453,6 +466,19 @@ public final class EdgeHearerTest {
         Edges.is("7 from both", x.drum(), 7);
         x.hear(1, 7, 180);
         Edges.is("7 from two, 8 from the third", x.drum(), 35);
+    }
+
+    static void p26ByAllHearers() {
+        for (int hearer = 0; hearer < 4; hearer++) {
+            IceByEar x = alone();
+            x.hear(hearer, 0, 180);
+            Edges.is("what " + hearer + " heard", x.drum(), 1);
+        }
+        IceByEar x = alone();
+        for (int hearer = 0; hearer < 4; hearer++) {
+            x.hear(hearer, hearer, 180);
+            Edges.is("behind " + hearer, x.drum(), hearer + 1);
+        }
     }
 
     static void p26WithoutSpansNone() {

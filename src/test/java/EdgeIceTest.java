@@ -213,6 +213,20 @@ public final class EdgeIceTest {
         }
     }
 
+    static void p03EachThicknessOfEachKind() {
+        int[] parts = {8, 5, 3, 2, 7};
+        for (int kind = 0; kind <= 4; kind++) {
+            IceByEar x = new IceByEar();
+            x.make(9, 1, kind);
+            for (int thickness = 1; thickness <= 99; thickness++) {
+                x.make(9, 0, thickness);
+                String what = thickness + " of kind " + kind;
+                Edges.is(what + " bears", x.told(9, 5), thickness * thickness * parts[kind] / 80);
+                Edges.is(what + " sings", x.told(9, 6), 9000 / thickness + 7 * kind);
+            }
+        }
+    }
+
     static void p03EachOf0To3PlanksBears60More() {
         IceByEar x = new IceByEar();
         for (int planks = 0; planks <= 3; planks++) {
@@ -288,6 +302,30 @@ public final class EdgeIceTest {
         day(30, 5, 2, 0, 31);
         day(30, 8, 5, 0, 31);
         day(30, 8, 4, 0, 30);
+    }
+
+    static void p04EachColdUnderEachSnowOnASpringOrNone() {
+        for (int cold = 0; cold <= 9; cold++) {
+            for (int snow = 0; snow <= 9; snow++) {
+                IceByEar x = new IceByEar();
+                for (int square = 0; square < 64; square++) {
+                    x.make(square, 0, thicknessOf(square));
+                    x.make(square, 2, snow);
+                    x.make(square, 3, square % 2);
+                }
+                x.days(cold, 1);
+                for (int square = 0; square < 64; square++) {
+                    int grown = thicknessOf(square) + cold * (10 - snow) / 10 - (square % 2 == 1 ? 3 : 0);
+                    String day = thicknessOf(square) + " under " + snow + " by " + cold + " on " + square;
+                    Edges.is(day, x.told(square, 0), grown < 0 ? 0 : grown > 99 ? 99 : grown);
+                }
+            }
+        }
+    }
+
+    /** Thick and thin ice on squares with a spring and on others. */
+    private static int thicknessOf(int square) {
+        return square < 16 ? square / 2 : 99 - (square - 16) / 2;
     }
 
     private static void day(int thickness, int snow, int cold, int spring, int want) {

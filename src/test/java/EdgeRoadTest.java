@@ -153,6 +153,31 @@ public final class EdgeRoadTest {
         Edges.is("the last of the way back", x.road(56, 0, 99, 9, 35), 0);
     }
 
+    static void p18EachSquareIsNextToTheOneBefore() {
+        String[] lakes = {
+            "99999999/99999999/99999999/99999999/99999999/99999999/99999999/99999999",
+            "90999999/90900009/90909909/90909909/90900909/90999909/90000009/99999999",
+            "99099099/09909909/09990999/99909990/90999099/99099909/09990999/99909999",
+            "99999999/00000009/99999999/90000000/99999999/00000009/99999999/99999999"};
+        for (String lake : lakes) {
+            for (int to : new int[] {63, 62, 56}) {
+                IceByEar x = new IceByEar();
+                Due.ice(x, lake);
+                int squares = x.road(0, to, 99, 9, -1), before = x.road(0, to, 99, 9, 0);
+                Edges.is("there is a road", squares > 0 ? 1 : 0, 1);
+                Edges.is("its first", before, 0);
+                for (int i = 1; i < squares; i++) {
+                    int square = x.road(0, to, 99, 9, i);
+                    int far = Math.abs(square / 8 - before / 8) + Math.abs(square % 8 - before % 8);
+                    Edges.is(before + " is next to " + square, far, 1);
+                    Edges.is(square + " bears it", x.told(square, 0), 90);
+                    before = square;
+                }
+                Edges.is("its last", before, to);
+            }
+        }
+    }
+
     static void p18NoSleighAndNoWayCount() {
         IceByEar x = new IceByEar();
         Made.FILLED.accept(x);

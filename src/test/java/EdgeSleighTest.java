@@ -249,6 +249,19 @@ public final class EdgeSleighTest {
         need(95, 9, 180);
     }
 
+    static void p14NeedOfEachLoadByEachPace() {
+        for (int pace = 1; pace <= 9; pace++) {
+            IceByEar x = new IceByEar();
+            x.step(0);
+            for (int load = 1; load <= 99; load++) {
+                x.home();
+                x.sleigh(load, pace, 0);
+                // What is above 10 parts of 10 is the load itself.
+                Edges.is("need of " + load + " by " + pace, x.need(0, 0), load + load * pace / 10);
+            }
+        }
+    }
+
     private static void need(int load, int pace, int want) {
         IceByEar x = new IceByEar();
         x.step(0);
@@ -470,6 +483,20 @@ public final class EdgeSleighTest {
         Edges.is("where", x.breaks(1), 0);
         Edges.is("when", x.breaks(2), 0);
         Edges.is("how many crack", x.breaks(3), 64);
+    }
+
+    static void p15TheMinuteOfEachPlaceByEachPace() {
+        for (int pace = 1; pace <= 9; pace++) {
+            int start = 11 * pace - 11;
+            IceByEar x = new IceByEar();
+            Made.windingWay(x, 24);
+            x.sleigh(1, pace, start);
+            for (int place = 0; place < 24; place++) {
+                x.make(Made.winding(place), 0, 0);
+                Edges.is("place " + place + " by " + pace, x.breaks(2), start + place * (10 - pace));
+                x.make(Made.winding(place), 0, 30);
+            }
+        }
     }
 
     static void p15OneTo64SquaresCrack() {
