@@ -35,7 +35,11 @@ public final class WordsTest {
     public static void main(String[] args) throws IOException, ReflectiveOperationException {
         List<Block> blocks = blocks();
         DUE.holds("there are quotes", blocks.size() > 100);
-        wordsAreTheDocuments(blocks);
+        if (Files.exists(DOCUMENT)) {
+            wordsAreTheDocuments(blocks);
+        } else {
+            System.out.println("WordsTest: no " + DOCUMENT + " here, so the quotes are not compared with it");
+        }
         Map<String, Set<String>> named = new HashMap<>();
         for (Block block : blocks) {
             testsAreThere(block, named);
